@@ -1,0 +1,155 @@
+import java.util.NoSuchElementException;
+
+/** Makes calls of a PluralMessages object short to write, and checks their answers. */
+final class Probe {
+    static final String ARGUMENT = "IllegalArgumentException";
+    static final String ELEMENT = "NoSuchElementException";
+    static final String STATE = "IllegalStateException";
+    static final String UNSUPPORTED = "UnsupportedOperationException";
+    static final String NOTHING = "nothing";
+
+    private static int wrong = 0;
+
+    final PluralMessages object = new PluralMessages();
+
+    static void due(String what, Object got, Object want) {
+        if (!want.equals(got)) {
+            wrong++;
+            System.out.println(what + " answered " + got + ", due is " + want);
+        }
+    }
+
+    /** To be called at the end of each test's main. */
+    static void finish() {
+        if (wrong != 0) {
+            System.out.println(wrong + " answers are not as due");
+            System.exit(1);
+        }
+    }
+
+    /** Up to four characters as the bytes of a number. */
+    static int bytes(String characters) {
+        int packed = 0;
+        for (int k = 0; k < characters.length(); k++) {
+            packed = packed << 8 | characters.charAt(k);
+        }
+        return packed;
+    }
+
+    /** The text becomes this one, typed four characters at a time. */
+    Probe text(String wanted) {
+        object.wipe();
+        for (int k = 0; k < wanted.length(); k += 4) {
+            String piece = wanted.substring(k, Math.min(k + 4, wanted.length()));
+            due("typing " + piece, object.type(bytes(piece)), true);
+        }
+        return this;
+    }
+
+    String compile(int slot, boolean doubled) {
+        try {
+            object.compile(slot, doubled);
+            return NOTHING;
+        } catch (IllegalArgumentException e) {
+            return ARGUMENT;
+        }
+    }
+
+    String rules(boolean order) {
+        try {
+            object.rules(order);
+            return NOTHING;
+        } catch (IllegalArgumentException e) {
+            return ARGUMENT;
+        }
+    }
+
+    String number(int name, long mantissa, int scale) {
+        try {
+            object.number(name, mantissa, scale);
+            return NOTHING;
+        } catch (IllegalArgumentException e) {
+            return ARGUMENT;
+        } catch (IllegalStateException e) {
+            return STATE;
+        }
+    }
+
+    String number(String name, long mantissa, int scale) {
+        return number(bytes(name), mantissa, scale);
+    }
+
+    String word(int name, int w) {
+        try {
+            object.word(name, w);
+            return NOTHING;
+        } catch (IllegalArgumentException e) {
+            return ARGUMENT;
+        } catch (IllegalStateException e) {
+            return STATE;
+        }
+    }
+
+    String word(String name, String characters) {
+        return word(bytes(name), bytes(characters));
+    }
+
+    String category(boolean order, long mantissa, int scale) {
+        try {
+            return String.valueOf(object.category(order, mantissa, scale));
+        } catch (IllegalArgumentException e) {
+            return ARGUMENT;
+        }
+    }
+
+    /** The length that format answers, or the exception's name. */
+    String format(int slot, boolean lenient) {
+        try {
+            return String.valueOf(object.format(slot, lenient));
+        } catch (IllegalArgumentException e) {
+            return ARGUMENT;
+        } catch (NoSuchElementException e) {
+            return ELEMENT;
+        } catch (IllegalStateException e) {
+            return STATE;
+        } catch (UnsupportedOperationException e) {
+            return UNSUPPORTED;
+        }
+    }
+
+    String result() {
+        StringBuilder result = new StringBuilder();
+        for (int k = 0; k < object.size(); k++) {
+            result.append((char) object.out(k));
+        }
+        return result.toString();
+    }
+
+    /** The message compiles. */
+    Probe message(int slot, boolean doubled, String pattern) {
+        text(pattern);
+        due("compile of " + pattern, compile(slot, doubled), NOTHING);
+        due("fault after compile of " + pattern, object.fault(), PluralMessages.NONE);
+        return this;
+    }
+
+    /** The rules can be read. */
+    Probe ruleText(boolean order, String wanted) {
+        text(wanted);
+        due("rules of " + wanted, rules(order), NOTHING);
+        due("fault after rules of " + wanted, object.fault(), PluralMessages.NONE);
+        return this;
+    }
+
+    /** Slot 0 is written so, and format answers the length. */
+    void written(String want) {
+        due("format to " + want, format(0, false), String.valueOf(want.length()));
+        due("the result", result(), want);
+    }
+
+    /** Slot 0 is written so when lenient. */
+    void writtenLenient(String want) {
+        due("lenient format to " + want, format(0, true), String.valueOf(want.length()));
+        due("the lenient result", result(), want);
+    }
+}
