@@ -195,7 +195,8 @@ public final class CompileTest {
         fine(open.repeat(3) + "x" + "}}".repeat(3));
         fine(open.repeat(3) + "{b}" + "}}".repeat(3));
         error(open.repeat(4) + "x" + "}}".repeat(4), 63);
-        error("{a,plural,other{{b,select,x{{c,plural,=1{{d,select,y  {z}other{}}}other{}}}other{}}}}", 54);
+        error("{a,plural,other{{b,select,x{{c,plural,=1{{d,select,y  {z}other{}}}other{}}}other{}}}}",
+            54);
         error(open.repeat(3) + "{d,select,}" + "}}".repeat(3), 58);
     }
 
