@@ -620,10 +620,7 @@ public final class PluralMessages {
 
         void fill(long mantissa, int scale) {
             long magnitude = mantissa < 0 ? -mantissa : mantissa;
-            unit = unitOf(scale);
-            if (unit < 1L) {
-                unit = 1L;
-            }
+            unit = Math.max(1L, unitOf(scale));
             long fraction = magnitude % unit;
             long shortFraction = fraction;
             int shortScale = scale;
@@ -993,10 +990,7 @@ public final class PluralMessages {
 
         int putNumber(long mantissa, int scale, boolean grouped) {
             long magnitude = mantissa < 0 ? -mantissa : mantissa;
-            long unit = unitOf(scale);
-            if (unit < 1L) {
-                return DONE;
-            }
+            long unit = Math.max(1L, unitOf(scale));
             int outcome = mantissa < 0 ? put('-') : DONE;
             if (outcome == DONE) {
                 outcome = putDigits(magnitude / unit, 1, grouped);

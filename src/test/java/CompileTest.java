@@ -13,6 +13,7 @@ public final class CompileTest {
         endsOfBranches();
         failureChangesNothing();
         allThatFits();
+        nothingOfAnEarlierMessage();
         Probe.finish();
     }
 
@@ -98,6 +99,8 @@ public final class CompileTest {
         error("{a, 1}", 4);
         error("{a,,}", 3);
         error("{a,num", 3);
+        error("{a,xumber}", 3);
+        error("{a,numbex}", 3);
         error("{a,  numbers}", 5);
         error("{a,Number}", 3);
         error("{a,numBer}", 3);
@@ -232,6 +235,25 @@ public final class CompileTest {
         p.written("a1");
         Probe.due("compile of no slot", p.compile(-1, false), Probe.ARGUMENT);
         p.written("a1");
+    }
+
+    private static void nothingOfAnEarlierMessage() {
+        Probe p = new Probe();
+        p.number("a", 5, 0);
+        for (int round = 0; round < 4; round++) {
+            p.message(0, false, "{a,plural,offset:3 =5{}other{#}}{a,select,other{x{a}}}");
+            p.written("x5");
+            p.message(1, false, "{a,plural,offset:2 other{#}}");
+            Probe.due("format of slot 1", p.format(1, false), "1");
+            Probe.due("result of slot 1", p.result(), "3");
+            p.message(0, false, "{a,plural,other{#}}");
+            p.written("5");
+            p.message(0, false, "{a,plural,one{}other{#}}{a,selectordinal,other{#}}");
+            p.written("55");
+            p.text("{a,plural,offset:4 other{");
+            p.compile(0, false);
+            p.written("55");
+        }
     }
 
     private static void allThatFits() {

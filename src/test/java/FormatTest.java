@@ -171,6 +171,10 @@ public final class FormatTest {
         p.written("b");
         p.message(0, false, "{n,plural,many{m}other{c}}");
         p.written("c");
+        p.number("n", 1, 0);
+        p.written("c");
+        p.message(0, false, "{n,selectordinal,one{o}other{c}few{f}}");
+        p.written("c");
     }
 
     private static void offset() {

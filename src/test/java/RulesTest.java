@@ -9,6 +9,7 @@ public final class RulesTest {
         joins();
         sets();
         failureChangesNothing();
+        nothingOfEarlierRules();
         Probe.finish();
     }
 
@@ -148,6 +149,21 @@ public final class RulesTest {
         Probe.due("for order, none", p.category(true, 1, 0), "5");
         Probe.due("for counting as before", p.category(false, 1, 0), "3");
         Probe.due("it stays the text", p.object.length(), 2);
+    }
+
+    private static void nothingOfEarlierRules() {
+        Probe p = new Probe();
+        for (int round = 0; round < 12; round++) {
+            p.ruleText(false, "one:n=1" + "or i=2".repeat(18));
+            Probe.due("category of 2", p.category(false, 2, 0), "1");
+            p.ruleText(false, "two:n=" + "1,".repeat(56) + "12");
+            Probe.due("category of 12", p.category(false, 12, 0), "2");
+            Probe.due("category of 2", p.category(false, 2, 0), "5");
+            p.ruleText(false, "zero:n=3;few:n!=3 and n!=7");
+            Probe.due("category of 3", p.category(false, 3, 0), "0");
+            Probe.due("category of 7", p.category(false, 7, 0), "5");
+            Probe.due("category of 1", p.category(false, 1, 0), "3");
+        }
     }
 
     private static void failureChangesNothing() {
