@@ -1,7 +1,5 @@
 /** Promise 5: compile makes the text a slot's message, or tells the place of its error. */
 public final class CompileTest {
-    private static final boolean[] MODES = {false, true};
-
     public static void main(String[] args) {
         slots();
         names();
@@ -17,22 +15,12 @@ public final class CompileTest {
         Probe.finish();
     }
 
-    /** The text has its first error at a place, in both modes. */
     private static void error(String text, int place) {
-        for (boolean doubled : MODES) {
-            Probe p = new Probe();
-            p.text(text);
-            String what = "compile of " + text + (doubled ? ", doubled" : "");
-            Probe.due(what, p.compile(0, doubled), Probe.ARGUMENT);
-            Probe.due("fault of " + what, p.object.fault(), place);
-            Probe.due("format after " + what, p.format(0, true), Probe.ARGUMENT);
-        }
+        Probe.messageError(text, place);
     }
 
     private static void fine(String text) {
-        for (boolean doubled : MODES) {
-            new Probe().message(1, doubled, text);
-        }
+        Probe.messageFine(text);
     }
 
     private static void slots() {

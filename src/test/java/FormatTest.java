@@ -11,6 +11,7 @@ public final class FormatTest {
         failures();
         lenient();
         fullResult();
+        firstFailureCounts();
         slots();
         Probe.finish();
     }
@@ -251,48 +252,52 @@ public final class FormatTest {
         p.writtenLenient("{{x}}");
     }
 
-    private static void fullResult() {
+    /** A new object with a number of sixteen characters, a word of four, and a message. */
+    private static Probe longValues(String pattern) {
         Probe p = new Probe();
-        String hundred = "x".repeat(100);
         p.number("n", 1000000000000000L, 0);
         p.word("w", "abcd");
-        p.message(0, false, hundred + "{w}".repeat(6));
-        p.written(hundred + "abcd".repeat(6));
-        p.message(0, false, "{w}".repeat(40));
-        p.written("abcd".repeat(40));
-        p.message(0, false, "{w}".repeat(39) + "xyz");
-        p.written("abcd".repeat(39) + "xyz");
-        p.message(0, false, "{n}".repeat(9) + "{w}{w}{w}{w}");
-        p.written("1000000000000000".repeat(9) + "abcd".repeat(4));
-        p.message(0, false, "{n}".repeat(9) + "{w}{w}{w}{w}x");
-        overflows(p, true);
-        p.message(0, false, "{n}".repeat(9) + "{w}{w}{w}{w}''");
-        overflows(p, true);
-        p.message(0, false, "{n}".repeat(9) + "{w}{w}{w}{w}{x}");
-        Probe.due("missing when full", p.format(0, false), Probe.ELEMENT);
-        Probe.due("missing when full, lenient", p.format(0, true), Probe.UNSUPPORTED);
-        p.message(0, false, "{n}".repeat(9) + "{w}{w}{w}{x}");
-        Probe.due("room for three", p.format(0, true), "159");
-        p.message(0, false, "{n}".repeat(9) + "{w}{w}{w}xy{x}");
-        Probe.due("room for two", p.format(0, true), Probe.UNSUPPORTED);
-        p.message(0, false, "{n}".repeat(9) + "{w}{w}{w}{w,select,other{abc{n}{x}}}");
-        Probe.due("full before missing", p.format(0, true), Probe.UNSUPPORTED);
-        Probe.due("full before missing, strictly", p.format(0, false), Probe.UNSUPPORTED);
-        p.message(0, false, "{n}".repeat(9) + "{w}{w}{w}{w,select,other{{x}{n}}}");
-        Probe.due("missing before full", p.format(0, true), "159");
-        Probe.due("missing before full, strictly", p.format(0, false), Probe.ELEMENT);
-        p.message(0, false, "{n}".repeat(9) + "{w}{w}{w}xy{n,hex}");
-        overflows(p, false);
-        p.message(0, false, "{n,number}".repeat(8));
-        overflows(p, false);
-        p.message(0, false, "{n}".repeat(9) + "{w}{w}{w}xyz{w}");
-        overflows(p, true);
+        p.message(0, false, pattern);
+        return p;
     }
 
-    private static void overflows(Probe p, boolean lenient) {
-        String before = p.result();
-        Probe.due("too long", p.format(0, lenient), Probe.UNSUPPORTED);
-        Probe.due("the result stays", p.result(), before);
+    private static void fullResult() {
+        String hundred = "x".repeat(100);
+        longValues(hundred + "{w}".repeat(6)).written(hundred + "abcd".repeat(6));
+        longValues("{w}".repeat(40)).written("abcd".repeat(40));
+        longValues("{w}".repeat(39) + "xyz").written("abcd".repeat(39) + "xyz");
+        String nine = "{n}".repeat(9);
+        longValues(nine + "{w}{w}{w}{w}")
+            .written("1000000000000000".repeat(9) + "abcd".repeat(4));
+        String[] tooLong = {nine + "{w}{w}{w}{w}x", nine + "{w}{w}{w}{w}''",
+            nine + "{w}{w}{w}xy{n,hex}", "{n,number}".repeat(8), nine + "{w}{w}{w}xyz{w}"};
+        for (String pattern : tooLong) {
+            overflows(pattern, false);
+            overflows(pattern, true);
+        }
+    }
+
+    private static void overflows(String pattern, boolean lenient) {
+        Probe p = longValues("before");
+        p.written("before");
+        p.message(0, false, pattern);
+        Probe.due("format of " + pattern, p.format(0, lenient), Probe.UNSUPPORTED);
+        Probe.due("the result stays", p.result(), "before");
+    }
+
+    private static void firstFailureCounts() {
+        String full = "{n}".repeat(9) + "{w}{w}{w}";
+        dueOfLong(full + "{w}{x}", Probe.ELEMENT, Probe.UNSUPPORTED);
+        dueOfLong(full + "{x}", Probe.ELEMENT, "159");
+        dueOfLong(full + "xy{x}", Probe.ELEMENT, Probe.UNSUPPORTED);
+        dueOfLong(full + "{w,select,other{abc{n}{x}}}", Probe.UNSUPPORTED, Probe.UNSUPPORTED);
+        dueOfLong(full + "{w,select,other{{x}{n}}}", Probe.ELEMENT, "159");
+    }
+
+    private static void dueOfLong(String pattern, String strict, String lenient) {
+        Probe p = longValues(pattern);
+        Probe.due("format of " + pattern, p.format(0, false), strict);
+        Probe.due("lenient format of " + pattern, p.format(0, true), lenient);
     }
 
     private static void slots() {

@@ -3,12 +3,13 @@ import java.util.Random;
 
 /** All promises: random runs of calls answer as the model does. */
 public final class ModelTest {
-    private static final int RUNS = 4000;
-    private static final int CALLS = 60;
+    private static final int RUNS = 6000;
+    // A format with all that is asked about its result: no other step makes more calls.
+    private static final int MOST_CALLS_OF_A_STEP = 170;
 
     private final Random random;
     private final int run;
-    private final PluralMessages object = new PluralMessages();
+    private final Counted object = new Counted();
     private final Model model = new Model();
     private String lastText = "";
 
@@ -26,7 +27,7 @@ public final class ModelTest {
         int runs = args.length > 0 ? Integer.parseInt(args[0]) : RUNS;
         for (int run = 0; run < runs; run++) {
             ModelTest test = new ModelTest(run);
-            for (int call = 0; call < CALLS; call++) {
+            while (test.object.calls() <= Counted.MOST_CALLS - MOST_CALLS_OF_A_STEP) {
                 test.step();
             }
         }
@@ -73,9 +74,9 @@ public final class ModelTest {
         lastText = text;
         object.wipe();
         model.wipe();
-        for (int k = 0; k < text.length(); k++) {
-            char c = text.charAt(k);
-            same("type", () -> object.type(c), () -> model.type(c));
+        for (int k = 0; k < text.length(); k += 4) {
+            int w = Probe.bytes(text.substring(k, Math.min(k + 4, text.length())));
+            same("type", () -> object.type(w), () -> model.type(w));
         }
     }
 

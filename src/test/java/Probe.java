@@ -8,14 +8,63 @@ final class Probe {
     static final String UNSUPPORTED = "UnsupportedOperationException";
     static final String NOTHING = "nothing";
 
-    private static int wrong = 0;
+    private static final boolean[] BOTH = {false, true};
 
-    final PluralMessages object = new PluralMessages();
+    private static int wrong = 0;
+    private static String sentence = "";
+
+    final Counted object = new Counted();
+
+    /** The document's words that the answers from here on are due by. */
+    static void sentence(String words) {
+        sentence = "\"" + words + "\": ";
+    }
 
     static void due(String what, Object got, Object want) {
         if (!want.equals(got)) {
             wrong++;
-            System.out.println(what + " answered " + got + ", due is " + want);
+            System.out.println(sentence + what + " answered " + got + ", due is " + want);
+        }
+    }
+
+    /** The text is a message in both modes. */
+    static void messageFine(String text) {
+        for (boolean doubled : BOTH) {
+            new Probe().message(1, doubled, text);
+        }
+    }
+
+    /** The text as a message has its error at a place, in both modes. */
+    static void messageError(String text, int place) {
+        for (boolean doubled : BOTH) {
+            messageError(doubled, text, place);
+        }
+    }
+
+    static void messageError(boolean doubled, String text, int place) {
+        Probe p = new Probe();
+        p.text(text);
+        String what = "compile of " + text + (doubled ? ", doubled" : "");
+        due(what, p.compile(0, doubled), ARGUMENT);
+        due("fault of " + what, p.object.fault(), place);
+        due("format after " + what, p.format(0, true), ARGUMENT);
+    }
+
+    /** The text is rules for counting and for order. */
+    static void rulesFine(String text) {
+        for (boolean order : BOTH) {
+            new Probe().ruleText(order, text);
+        }
+    }
+
+    /** The text as rules has its error at a place. */
+    static void rulesError(String text, int place) {
+        Probe p = new Probe();
+        p.text(text);
+        for (boolean order : BOTH) {
+            String what = "rules of " + text + (order ? ", for order" : "");
+            due(what, p.rules(order), ARGUMENT);
+            due("fault of " + what, p.object.fault(), place);
         }
     }
 
@@ -119,7 +168,8 @@ final class Probe {
 
     String result() {
         StringBuilder result = new StringBuilder();
-        for (int k = 0; k < object.size(); k++) {
+        int size = object.size();
+        for (int k = 0; k < size; k++) {
             result.append((char) object.out(k));
         }
         return result.toString();

@@ -14,17 +14,11 @@ public final class RulesTest {
     }
 
     private static void fine(String text) {
-        new Probe().ruleText(false, text);
-        new Probe().ruleText(true, text);
+        Probe.rulesFine(text);
     }
 
     private static void error(String text, int place) {
-        Probe p = new Probe();
-        p.text(text);
-        Probe.due("rules of " + text, p.rules(false), Probe.ARGUMENT);
-        Probe.due("fault of " + text, p.object.fault(), place);
-        Probe.due("rules for order of " + text, p.rules(true), Probe.ARGUMENT);
-        Probe.due("fault for order of " + text, p.object.fault(), place);
+        Probe.rulesError(text, place);
     }
 
     private static void fineTexts() {
@@ -153,7 +147,7 @@ public final class RulesTest {
 
     private static void nothingOfEarlierRules() {
         Probe p = new Probe();
-        for (int round = 0; round < 12; round++) {
+        for (int round = 0; round < 5; round++) {
             p.ruleText(false, "one:n=1" + "or i=2".repeat(18));
             Probe.due("category of 2", p.category(false, 2, 0), "1");
             p.ruleText(false, "two:n=" + "1,".repeat(56) + "12");
