@@ -23,6 +23,7 @@ public final class CallsBoundaryTest {
         namesOfValues();
         inPlaceOfWhatWasThere();
         wrongNumbers();
+        wordBytes();
         wrongWords();
         seventhName();
         drop();
@@ -325,6 +326,19 @@ public final class CallsBoundaryTest {
         for (long mantissa : fine) {
             Probe.due("mantissa " + mantissa, p.number("a", mantissa, 0), Probe.NOTHING);
             Probe.due("mantissa " + mantissa, p.number("a", mantissa, 6), Probe.NOTHING);
+        }
+    }
+
+    private static void wordBytes() {
+        Probe.sentence("Puts a word under a name: the bytes of w other than 0, the highest first");
+        int[] words = {0, 0x64, 0x6300, 0x620000, 0x61000000, 0x6364, 0x610064, 0x61000064,
+            0x61620063, 0x61626364};
+        String[] want = {"", "d", "c", "b", "a", "cd", "ad", "ad", "abc", "abcd"};
+        Probe p = new Probe();
+        p.message(0, false, "<{w}>{w,select,ad{yes}other{no}}");
+        for (int k = 0; k < words.length; k++) {
+            Probe.due("word " + words[k], p.word('w', words[k]), Probe.NOTHING);
+            p.written("<" + want[k] + ">" + (want[k].equals("ad") ? "yes" : "no"));
         }
     }
 

@@ -24,6 +24,8 @@ public final class MessageBoundaryTest {
         noNumbersForSelect();
         otherIsNeeded();
         deepestLevel();
+        levelsSideBySide();
+        mostBranches();
         Probe.finish();
     }
 
@@ -259,7 +261,12 @@ public final class MessageBoundaryTest {
             int shorter = type.length() - 1;
             Probe.messageError("{n, " + type.substring(0, shorter) + " ,other{}}", 4);
             Probe.messageError("{n, " + type.substring(1) + ",other{}}", 4);
+            Probe.messageError("{n, x" + type.substring(1) + ",other{}}", 4);
             Probe.messageError("{n, " + type + "s,other{}}", 4);
+            Probe.messageError("{n, " + type + "a,other{}}", 4);
+            Probe.messageError("{n, " + type + "z,other{}}", 4);
+            Probe.messageError("{n, " + type + "`,other{}}", 4 + type.length());
+            Probe.messageError("{n, " + type + "{,other{}}", 4 + type.length());
             Probe.messageError("{n," + type.substring(0, shorter), 3);
         }
         String[] none = {"a", "other", "offset", "ordinal", "lower", "date", "selectplural",
@@ -291,6 +298,9 @@ public final class MessageBoundaryTest {
             int place = start.length();
             Probe.messageFine(start + "a{}other{}}");
             Probe.messageFine(start + "abcdef{}other{}}");
+            Probe.messageFine(start + "azbycx{}other{}}");
+            Probe.messageError(start + "ab`{}other{}}", place + 2);
+            Probe.messageError(start + "abC{}other{}}", place + 2);
             Probe.messageError(start + "abcdefg{}other{}}", place + 6);
             Probe.messageError(start + "abcdefghijklmnop", place + 6);
             Probe.messageError(start + "others{}}", place + 8);
@@ -314,6 +324,9 @@ public final class MessageBoundaryTest {
             Probe.messageError(start + "42949672961{}other{}}", place + 4);
             Probe.messageError(start + "-1{}other{}}", place);
             Probe.messageError(start + "1.0{}other{}}", place + 1);
+            Probe.messageError(start + "1/{}other{}}", place + 1);
+            Probe.messageError(start + "1:{}other{}}", place + 1);
+            Probe.messageError(start + "/{}other{}}", place);
         }
         writtenInBoth("{n,plural,=1234{x}other{y}}", "x");
         writtenInBoth("{n,plural,=123{x}=234{z}other{y}}", "y");
@@ -359,7 +372,32 @@ public final class MessageBoundaryTest {
         Probe.messageError(plural.repeat(4) + "}}".repeat(4), 63);
         Probe.messageError(select.repeat(4), 63);
         Probe.messageError(select.repeat(3) + "{w,select,a  {}other{}}" + "}}".repeat(3), 61);
-        // The messages side by side are no deeper than the first of them.
+    }
+
+    private static void levelsSideBySide() {
+        Probe.sentence("A MESSAGE has a level: 0 for the whole text; of a branch, one more than "
+            + "that of the message in which its argument is");
         Probe.messageFine("{w,select,a{}b{}c{}d{}other{}}" + "{w,select,other{}}".repeat(4));
+        String inner = "{w,select,other{}}";
+        writtenInBoth("{w,select,abc{" + inner + inner + "x" + inner + inner + "}other{}}", "x");
+        writtenInBoth("{w,select,a{{w,select,b{{w,select,other{}}}other{}}}"
+            + "other{{w,select,other{{w,select,other{x}}}}}}", "x");
+    }
+
+    /** As many branches and arguments as a text can have are all kept. */
+    private static void mostBranches() {
+        Probe.sentence("The TEXT has at most 120 of them");
+        Probe p = new Probe();
+        p.message(0, false, "{w,select," + "x{}".repeat(32) + "other{o}" + "yz{}}");
+        Probe.due("length", p.object.length(), 119);
+        p.word("w", "yz");
+        p.written("");
+        p.word("w", "x");
+        p.written("");
+        p.word("w", "z");
+        p.written("o");
+        p.message(0, false, "{w}".repeat(40));
+        Probe.due("length", p.object.length(), 120);
+        p.written("z".repeat(40));
     }
 }

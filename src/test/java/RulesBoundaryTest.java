@@ -66,6 +66,11 @@ public final class RulesBoundaryTest {
             p.ruleText(false, words[k] + ":n=1");
             Probe.due("category", p.category(false, 1, 0), String.valueOf(k));
             Probe.rulesError(" " + words[k] + "s:n=1", 1);
+            Probe.rulesError(" " + words[k] + "a:n=1", 1);
+            Probe.rulesError(" " + words[k] + "z:n=1", 1);
+            Probe.rulesError(" " + words[k] + "`:n=1", 1 + words[k].length());
+            Probe.rulesError(" " + words[k] + "{:n=1", 1 + words[k].length());
+            Probe.rulesError(" " + words[k] + ";x", 1 + words[k].length());
             Probe.rulesError(" " + words[k].substring(1) + ":n=1", 1);
             Probe.rulesError(words[k].substring(0, words[k].length() - 1), 0);
         }
@@ -132,6 +137,10 @@ public final class RulesBoundaryTest {
         Probe.rulesError("one:N=1", 4);
         Probe.rulesError("one:nn=1", 4);
         Probe.rulesError("one: fn=1", 5);
+        Probe.rulesError("one:na=1", 4);
+        Probe.rulesError("one:nz=1", 4);
+        Probe.rulesError("one:n`=1", 5);
+        Probe.rulesError("one:n{=1", 5);
     }
 
     private static void modulus() {
@@ -183,6 +192,10 @@ public final class RulesBoundaryTest {
         Probe.rulesError("one:n=1..", 9);
         Probe.rulesError("one:n=1..2..3", 10);
         Probe.rulesError("one:n=..1", 6);
+        Probe.rulesError("one:n=1.,x", 8);
+        Probe.rulesError("one:n=1..,x", 9);
+        Probe.rulesError("one:n=1.;x", 8);
+        Probe.rulesError("one:n=1..;x", 9);
     }
 
     private static void digits() {
@@ -193,6 +206,10 @@ public final class RulesBoundaryTest {
         Probe.rulesError("one:n=00001", 10);
         Probe.rulesError("one:n=4294967296", 10);
         Probe.rulesError("one:n=18446744073709551617", 10);
+        Probe.rulesError("one:n=1/", 7);
+        Probe.rulesError("one:n=1:", 7);
+        Probe.rulesError("one:n=/", 6);
+        Probe.rulesError("one:n=:", 6);
         Probe.rulesError("one:n=1,23456", 12);
         Probe.rulesFine("one:n=1..9999");
         Probe.rulesError("one:n=1..12345", 13);
@@ -206,6 +223,11 @@ public final class RulesBoundaryTest {
             + "one that may not stand where it does is an error at its first letter");
         Probe.rulesError("one:n=1 andn=2", 8);
         Probe.rulesError("one:n=1 orn=2", 8);
+        Probe.rulesError("one:n=1 ora=2", 8);
+        Probe.rulesError("one:n=1 orz=2", 8);
+        Probe.rulesError("one:n=1 or`n=2", 10);
+        Probe.rulesError("one:n=1 or{n=2", 10);
+        Probe.rulesError("one:n=1 and`n=2", 11);
         Probe.rulesError("one:n=1 an n=2", 8);
         Probe.rulesError("one:n=1 andor n=2", 8);
         Probe.rulesError("one:n=1 o", 8);
